@@ -14,7 +14,7 @@ public final class ClaimChains {
     private static final int NOT = 3, BOTH = 4, EITHER = 5, UNLIKE = 6, CHOICE = 7;
     private static final int FAULT_NULL = 1, FAULT_STORE = 2, FAULT_INDEX = 3, FAULT_SIZE = 4;
     private static final int LONGEST_CHAIN = 8, LONGEST_WALK = 8, LONGEST_WAY = 15;
-    private static final int[] LEAF_NUMBERS = {2, VARIABLES, INPUTS};
+    private static final int[] LEAF_NUMBERS = {2, 4, 2};
     private static final long[] CONSTANT_TABLES = {0L, -1L};
     private static final long[] VARIABLE_TABLES = {
         0xAAAAAAAAAAAAAAAAL, 0xCCCCCCCCCCCCCCCCL, 0xF0F0F0F0F0F0F0F0L, 0xFF00FF00FF00FF00L};
@@ -651,6 +651,7 @@ public final class ClaimChains {
             // leading[m]: the states from which m steps can end in a broken one.
             leading[0] = brokenStates;
             for (int m = 1; m <= wayLength; m++) leading[m] = sources(leading[m - 1]);
+            // A broken state has that distance, so there is such a start; max keeps the index safe.
             int state = Math.max(0, leastOf(startStates & leading[wayLength]));
             wayStates[0] = state;
             for (int k = 0; k < wayLength; k++) {
@@ -660,6 +661,7 @@ public final class ClaimChains {
             }
         }
 
+        /** The least row with which a state leads into a set; 0, though it is never asked so, if none does. */
         private int leastRowInto(int state, int set) {
             for (int row = 0; row < ROWS; row++) {
                 if (isIn(target(state, row), set)) return row;

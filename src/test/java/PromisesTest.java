@@ -495,6 +495,8 @@ public final class PromisesTest {
         due("with a lemma of 3: none", x.chain(3, 0, 0), NONE);
         due("with a lemma of 2", x.chain(2, 0, 0), 2);
         theFirstChain();
+        pastADeadEnd();
+        afterOtherSteps();
     }
 
     /** Of several rows that lead on the least is told, and a chain comes to no state twice. */
@@ -510,6 +512,38 @@ public final class PromisesTest {
         for (int i = 0; i < 3; i++) due("ROW " + i, x.chain(3, i, 1), rows[i]);
         due("of 4 from 2", x.chain(4, 0, 0), 2);
         due("of 5: no two alike", x.shut(5), 1);
+    }
+
+    /** From 0 to 2 and back, to 3, 4, 8 (broken), or to 8 at once: of 3 the way by 2 would come to 0 again. */
+    private static void pastADeadEnd() {
+        ClaimChains x = withLeaves();
+        int at0 = just(x, 0), low = x.gate(BOTH, at0, x.gate(NOT, IN1, 0));
+        x.next(0, x.gate(BOTH, low, IN0));
+        x.next(1, low);
+        x.next(2, just(x, 3));
+        x.next(3, x.gate(EITHER, 3, x.gate(EITHER, just(x, 4), x.gate(BOTH, at0, IN1))));
+        x.claim(x.gate(NOT, 3, 0));
+        int[] states = {0, 3, 4, 8}, rows = {1, 0, 0};
+        for (int i = 0; i < 4; i++) due("STATE " + i, x.chain(3, i, 0), states[i]);
+        for (int i = 0; i < 3; i++) due("ROW " + i, x.chain(3, i, 1), rows[i]);
+    }
+
+    /** The same question ahead of a telling and behind it. */
+    private static void afterOtherSteps() {
+        ClaimChains x = withLeaves();
+        x.claim(x.gate(NOT, 3, 0));
+        due("all stay", x.chain(1, 0, 0), NONE);
+        x.next(3, 2);
+        due("other steps", x.chain(1, 0, 0), 4);
+        x.next(3, 1);
+        due("other steps", x.chain(1, 0, 0), 2);
+        x.claim(x.gate(NOT, x.gate(BOTH, 0, 3), 0));
+        due("another claim", x.chain(1, 0, 0), 3);
+        x.starts(ZERO);
+        x.lemma(x.gate(NOT, x.gate(BOTH, 1, x.gate(NOT, 3, 0)), 0));
+        due("a lemma", x.chain(1, 0, 0), NONE);
+        x.back();
+        due("no lemma", x.chain(1, 0, 0), 3);
     }
 
     private static void weak() {
