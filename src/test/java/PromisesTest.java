@@ -1,71 +1,10 @@
 /** Promise by promise: ordinary inputs, the edges that the document names, and wrong inputs in their order. */
-public final class PromisesTest {
-    private static final int UNKNOWN = -1, OUTSIDE = -2, STATE = -3, FULL = -4, NONE = -9;
-    private static final int NULL = -11, STORE = -12, INDEX = -13, SIZE = -14;
-    private static final long LOST = Long.MIN_VALUE;
-    private static final int LOW = Integer.MIN_VALUE, HIGH = Integer.MAX_VALUE;
-    private static final int NOT = 3, BOTH = 4, EITHER = 5, UNLIKE = 6;
-    /** The terms of withLeaves(): variables are 0 .. 3. */
-    private static final int IN0 = 4, IN1 = 5, ZERO = 6, ONE = 7;
-
+public final class PromisesTest extends Fixtures {
     private static final Answers answers = new Answers("PromisesTest");
     private static int promise = 0;
 
     private static void due(String call, long got, long want) {
         answers.due("promise " + promise + ": " + call, got, want);
-    }
-
-    private static ClaimChains withLeaves() {
-        ClaimChains x = new ClaimChains();
-        for (int v = 0; v < 4; v++) x.leaf(1, v);
-        x.leaf(2, 0);
-        x.leaf(2, 1);
-        x.leaf(0, 0);
-        x.leaf(0, 1);
-        return x;
-    }
-
-    /** The term that is 1 in the states that have of some variables just a part. */
-    private static int cube(ClaimChains x, int names, int part) {
-        int all = ONE;
-        for (int v = 0; v < 4; v++) {
-            if ((names & 1 << v) == 0) continue;
-            int literal = (part & 1 << v) != 0 ? v : x.gate(NOT, v, 0);
-            all = all == ONE ? literal : x.gate(BOTH, all, literal);
-        }
-        return all;
-    }
-
-    private static void fillTerms(ClaimChains x) {
-        int last = x.many(0) - 1;
-        while (x.many(0) < 40) last = x.gate(NOT, last, 0);
-    }
-
-    /** Variables 0 and 1 count the steps with input 0, from 0 on; 3 breaks the claim. */
-    private static ClaimChains counter() {
-        ClaimChains x = withLeaves();
-        x.starts(cube(x, 15, 0));
-        x.next(0, x.gate(UNLIKE, 0, IN0));
-        x.next(1, x.gate(UNLIKE, 1, x.gate(BOTH, 0, IN0)));
-        x.claim(x.gate(NOT, cube(x, 3, 3), 0));
-        return x;
-    }
-
-    /** Bits go from variable 0 to 3, none comes in; it starts without any; variable 3 breaks the claim. */
-    private static ClaimChains shifter() {
-        ClaimChains x = withLeaves();
-        x.starts(cube(x, 15, 0));
-        x.next(0, ZERO);
-        x.next(1, 0);
-        x.next(2, 1);
-        x.next(3, 2);
-        x.claim(x.gate(NOT, 3, 0));
-        return x;
-    }
-
-    /** The term that is 1 in one state alone. */
-    private static int just(ClaimChains x, int state) {
-        return cube(x, 15, state);
     }
 
     private static void aNewObject() {
@@ -316,20 +255,6 @@ public final class PromisesTest {
         due("state 16", x.distance(16), OUTSIDE);
         ClaimChains y = longest();
         for (int s = 0; s < 16; s++) due("longest: distance(" + s + ")", y.distance(s), s);
-    }
-
-    /** All four variables count the steps, from 0 on; 15 breaks the claim. */
-    private static ClaimChains longest() {
-        ClaimChains x = withLeaves();
-        x.starts(cube(x, 15, 0));
-        int both = x.gate(BOTH, 0, 1);
-        int three = x.gate(BOTH, both, 2);
-        x.next(0, x.gate(NOT, 0, 0));
-        x.next(1, x.gate(UNLIKE, 1, 0));
-        x.next(2, x.gate(UNLIKE, 2, both));
-        x.next(3, x.gate(UNLIKE, 3, three));
-        x.claim(x.gate(NOT, x.gate(BOTH, three, 3), 0));
-        return x;
     }
 
     private static void dueMet(ClaimChains x, int... want) {
@@ -861,12 +786,6 @@ public final class PromisesTest {
 
     private static void dueRow(ClaimChains x, int b, int... want) {
         for (int i = 0; i < want.length; i++) due("box " + b + " place " + i, x.take(b, i), want[i]);
-    }
-
-    private static void layRow(ClaimChains x, int b, int... terms) {
-        for (int i = 0; i < terms.length; i++) {
-            if (terms[i] != NONE) x.lay(b, i, terms[i]);
-        }
     }
 
     private static void move() {
