@@ -171,6 +171,22 @@ public final class LemmasEdgesTest extends Edges {
         due("to", x.chain(1, 1, 0), 8);
     }
 
+    /** The GOOD states are the same ahead of the lemma and behind it; the BROKEN ones that are in it are others. */
+    private static void chainToLemmas() {
+        of(23, "the last is BROKEN and in all LEMMAS");
+        ClaimChains x = withLeaves();
+        int claim = x.gate(NOT, 3, 0);
+        x.starts(claim);
+        x.claim(claim);
+        due("of 0", x.chain(0, 0, 0), 8);
+        due("a LEMMA without the BROKEN ones", x.lemma(claim), 0);
+        due("of 0", x.chain(0, 0, 0), NONE);
+        due("no LEMMA", x.back(), 0);
+        due("of 0", x.chain(0, 0, 0), 8);
+        due("a LEMMA with all but the first of the BROKEN ones", x.lemma(x.gate(EITHER, claim, 0)), 0);
+        due("of 0", x.chain(0, 0, 0), 9);
+    }
+
     private static void weakBounds() {
         of(24, "OUTSIDE");
         bounds(Fixtures::counter, call("weak", 0), 0, 0, 1, OUTSIDE);
@@ -429,6 +445,11 @@ public final class LemmasEdgesTest extends Edges {
         due("the first", y.ofLemma(0, 2), 17);
         due("the second", y.ofLemma(1, 2), UNKNOWN);
         due("GOOD", y.many(4), 4);
+        y.strengthen();
+        y.strengthen();
+        due("none is WEAK, with three", y.weak(0), 0);
+        due("two are left", y.back(), 2);
+        due("GOOD are in both of them", y.weak(1), 0x0011);
     }
 
     private static void ofLemmaBounds() {
@@ -499,6 +520,7 @@ public final class LemmasEdgesTest extends Edges {
         chainBounds();
         chainEnds();
         chainRows();
+        chainToLemmas();
     }
 
     private static void lemmas() {

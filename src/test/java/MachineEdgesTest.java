@@ -169,6 +169,9 @@ public final class MachineEdgesTest extends Edges {
         z.next(0, z.gate(BOTH, IN0, IN1));
         due("with the last ROW alone", z.before(1), 3);
         due("with the ROWS ahead of it", z.before(0), 3);
+        z.next(0, z.gate(NOT, z.gate(EITHER, IN0, IN1), 0));
+        due("with the first ROW alone", z.before(1), 3);
+        due("with the ROWS behind it", z.before(0), 3);
     }
 
     private static void distanceBounds() {
@@ -184,6 +187,9 @@ public final class MachineEdgesTest extends Edges {
         for (int s = 0; s < 16; s++) due("no STARTS", x.distance(s), NONE);
         x.starts(ONE);
         for (int s = 0; s < 16; s++) due("all are STARTS", x.distance(s), 0);
+        x.starts(just(x, 0));
+        x.next(0, x.gate(NOT, x.gate(EITHER, IN0, IN1), 0));
+        due("by the first ROW alone", x.distance(1), 1);
         ClaimChains y = counter();
         due("not MET", y.distance(4), NONE);
         due("not MET", y.distance(15), NONE);

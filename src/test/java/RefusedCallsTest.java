@@ -12,12 +12,13 @@ import java.util.function.Supplier;
  * An object answers 512 calls, so that each part of the questions has an object of its own.
  */
 public final class RefusedCallsTest extends Edges {
-    /** What each argument of a call is: the letters of EDGES; r: as met(), many() and their like number it. */
+    /** All calls, from promise 2 on, and what each argument is: the letters of EDGES. */
     private static final String[] CALLS = {
         "leaf k n", "gate g t t", "choice t t t", "ofTerm t r", "leaves t", "value t s w", "holds t w", "alike t t",
         "starts t", "next n t", "claim t", "step s w", "before s", "distance s", "met r", "way s r", "loose l", "cone r",
         "clear c", "shut c", "settle c", "chain c c r", "weak r", "strengthen", "lemma t", "block b", "back", "ofLemma p r",
-        "chance c", "mean", "box b n p", "lay b p t", "take b p", "same b b", "move b p b p m", "states b w r", "lose b", "many r"};
+        "closed", "chance c", "mean", "box b n p", "lay b p t", "take b p", "same b b", "move b p b p m", "states b w r", "lose b",
+        "fault", "many r"};
     private static final Map<Character, int[]> EDGES = Map.ofEntries(
         Map.entry('k', new int[] {LOW, -1, 0, 2, 3}),
         Map.entry('n', new int[] {-1, 0, 1, 3, 4}),
@@ -230,7 +231,7 @@ public final class RefusedCallsTest extends Edges {
         Before before = Before.of(made);
         int count = 0;
         for (int k = 0; k < CALLS.length; k++) {
-            of(0, "they change nothing; in: " + situation);
+            of(k + 2, "REFUSALS, FAULTS change nothing; in: " + situation);
             for (Call call : withEdges(CALLS[k])) {
                 long answer = call.on(made.get());
                 if (!leavesAll(call, answer, before)) continue;
