@@ -36,8 +36,8 @@ abstract class Fixtures {
     }
 
     static void fillTerms(ClaimChains x) {
-        int last = x.many(0) - 1;
-        while (x.many(0) < 40) last = x.gate(NOT, last, 0);
+        int first = x.many(0);
+        for (int t = first; t < 40; t++) x.gate(NOT, t - 1, 0);
     }
 
     /** Lays terms into the first places of a box; NONE leaves a place as it is. */

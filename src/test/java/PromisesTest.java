@@ -634,7 +634,8 @@ public final class PromisesTest extends Fixtures {
     private static void closed() {
         ClaimChains x = shifter();
         due("some are WEAK", x.closed(), 0);
-        while (x.strengthen() >= 0) due("lemmas", x.many(1) <= 3 ? 1 : 0, 1);
+        for (int k = 0; k < 3; k++) due("lemmas", x.strengthen() >= 0 ? 1 : 0, 1);
+        due("no more", x.strengthen(), NONE);
         due("none is WEAK", x.closed(), 1);
         ClaimChains y = withLeaves();
         y.claim(0);
@@ -907,7 +908,7 @@ public final class PromisesTest extends Fixtures {
         x.box(1, 0, 0);
         x.box(2, 0, 3);
         int terms = 0;
-        while (x.leaves(terms) != LOST) terms++;
+        for (int t = 0; t < 41; t++) terms += x.leaves(t) != LOST ? 1 : 0;
         int[] want = {terms, 1, 1, 8, 4, 2};
         for (int what = 0; what < 6; what++) due("many(" + what + ")", x.many(what), want[what]);
         due("what -1", x.many(-1), OUTSIDE);
