@@ -5,6 +5,7 @@ import java.lang.reflect.Method;
 import java.lang.reflect.Modifier;
 import java.nio.file.Files;
 import java.nio.file.Path;
+import java.util.List;
 import java.util.Set;
 import java.util.TreeSet;
 import java.util.regex.Pattern;
@@ -38,9 +39,8 @@ public final class LanguageTest {
         Set<String> constants = new TreeSet<>();
         for (Field f : c.getDeclaredFields()) {
             if (!Modifier.isPrivate(f.getModifiers())) constants.add(f.getType() + " " + f.getName());
-            boolean isStatic = Modifier.isStatic(f.getModifiers());
-            answers.isSo(f.getName() + " is final", !isStatic || Modifier.isFinal(f.getModifiers()));
         }
+        checkStaticFields(c);
         answers.isSo("constants " + constants, constants.equals(new TreeSet<>(Set.of(
             "int UNKNOWN", "int OUTSIDE", "int STATE", "int FULL", "int NONE", "long LOST"))));
         Constructor<?>[] constructors = c.getDeclaredConstructors();
@@ -66,6 +66,18 @@ public final class LanguageTest {
             answers.isSo(c + " is static", Modifier.isStatic(c.getModifiers()));
             answers.isSo(c + " is not public", !Modifier.isPublic(c.getModifiers()) && !Modifier.isProtected(c.getModifiers()));
             checkPrivateNames(c, names);
+            checkStaticFields(c);
+        }
+    }
+
+    /** Nothing that changes is static, and what is static is of a kind that rule 5 names. */
+    private static void checkStaticFields(Class<?> c) {
+        Set<Class<?>> kinds = Set.of(int.class, long.class, boolean.class, char.class, String.class,
+            int[].class, long[].class, char[].class, byte[].class);
+        for (Field f : c.getDeclaredFields()) {
+            if (!Modifier.isStatic(f.getModifiers())) continue;
+            answers.isSo(f + " is final", Modifier.isFinal(f.getModifiers()));
+            answers.isSo(f + " is of a kind that may be static", kinds.contains(f.getType()));
         }
     }
 
@@ -93,6 +105,22 @@ public final class LanguageTest {
         while (library.find()) answers.isSo("library: " + library.group(), allowed.contains(library.group(1)));
     }
 
+    /** A method begins with a line that ends in a brace, and ends with a brace as far in as it began. */
+    private static void checkLengths() throws IOException {
+        List<String> lines = Files.readAllLines(SOURCE);
+        int methods = 0;
+        for (int from = 0; from < lines.size(); from++) {
+            String line = lines.get(from);
+            if (!line.matches(" +(public|private) [^=]*\\) \\{")) continue;
+            String end = line.replaceFirst("\\S.*", "}");
+            int to = from;
+            while (to < lines.size() && !lines.get(to).equals(end)) to++;
+            answers.isSo("at most sixty lines: " + line.trim(), to < lines.size() && to - from < 60);
+            methods++;
+        }
+        answers.isSo("methods are found by their lines: " + methods, methods > FACE.length);
+    }
+
     /** Nothing is made behind the constructor, so that no run can fill the room. */
     private static void checkThatNothingIsMade() throws IOException {
         for (String line : Files.readAllLines(SOURCE)) {
@@ -107,6 +135,7 @@ public final class LanguageTest {
         checkFace();
         checkClassesInside();
         checkWords();
+        checkLengths();
         checkThatNothingIsMade();
         answers.end();
     }
