@@ -23,7 +23,7 @@ public final class CiRunTest {
     private void copy(String name) throws IOException {
         Path to = project.resolve(name);
         Files.createDirectories(to.getParent());
-        Files.copy(Path.of(name), to, java.nio.file.StandardCopyOption.COPY_ATTRIBUTES);
+        Files.copy(Path.of(name), to);
     }
 
     private static String program(String name, String body) {
@@ -57,7 +57,7 @@ public final class CiRunTest {
     /** Whether .ci/run passes as due, and has run each of some tests: from another folder, as CI may start it. */
     private void due(String what, boolean passes, String... ran) throws IOException, InterruptedException {
         try {
-            Process process = new ProcessBuilder(project.resolve(".ci/run").toString())
+            Process process = new ProcessBuilder("sh", project.resolve(".ci/run").toString())
                 .directory(folder.toFile()).redirectErrorStream(true).start();
             String told = new String(process.getInputStream().readAllBytes());
             answers.due(what + ": passes", process.waitFor() == 0 ? 1 : 0, passes ? 1 : 0);
